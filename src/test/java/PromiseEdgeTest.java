@@ -230,13 +230,16 @@ public final class PromiseEdgeTest {
 
     /**
      * Places that a curve passes by less than 2^-30 of a unit: the products that tell its sides differ by 4 at some
-     * 10^17, so that doubles take them for equal. Start, bend, end and place, two numbers each.
+     * 10^17, so that doubles take them for equal; in the last two of those outside by 15876, across a multiple of
+     * 2^15, so that no bit of a product may get lost. Start, bend, end and place, two numbers each.
      */
     private static void windingBarelyOffCurve() {
         int[][] outside = {
                 {-4376, 19415, -10893, -14245, 17926, -7282, 0, -6000},
                 {10000, 19302, -9300, -3685, 8649, -17290, 0, -2000},
-                {-8468, -19686, 11994, 10493, -16883, 13890, 0, 0}};
+                {-8468, -19686, 11994, 10493, -16883, 13890, 0, 0},
+                {17454, 8813, -9641, 18612, -2386, -19035, 0, 8000},
+                {10062, 5573, -15541, -4151, 14086, -14814, 0, 0}};
         int[][] inside = {
                 {19463, -19975, 7311, 18388, -16439, -15089, 0, 0},
                 {-17298, -15250, 18207, 12550, -16126, 19743, -2000, 0},
