@@ -5,7 +5,10 @@ import java.lang.reflect.Modifier;
 import java.util.Set;
 import java.util.TreeSet;
 
-/** The public face: just the members of the document, and none beside them that could be seen from outside. */
+/**
+ * The public face: just the members of the document, and none beside them that could be seen from outside but for
+ * the classes that rule 1 of LANGUAGE.md allows.
+ */
 public final class FaceTest {
     private static final Set<String> FACE = Set.of(
             "public static final int CurveScan.REFUSED",
@@ -34,7 +37,26 @@ public final class FaceTest {
         for (String member : seen) {
             check.due("the document has " + member, FACE.contains(member) ? 1 : 0, 1);
         }
+        privateNamesAreTheirOwn(check);
+        classesInsideAreStatic(check);
         check.end();
+    }
+
+    private static void privateNamesAreTheirOwn(Check check) {
+        Set<String> publicNames = Set.of("point", "close", "clear", "winding", "row", "count");
+        for (Method method : CurveScan.class.getDeclaredMethods()) {
+            boolean borne = Modifier.isPrivate(method.getModifiers()) && publicNames.contains(method.getName());
+            check.due("private methods that bear the public name " + method.getName(), borne ? 1 : 0, 0);
+        }
+    }
+
+    private static void classesInsideAreStatic(Check check) {
+        for (Class<?> inside : CurveScan.class.getDeclaredClasses()) {
+            int modifiers = inside.getModifiers();
+            boolean hidden = !Modifier.isPublic(modifiers) && !Modifier.isProtected(modifiers);
+            check.due(inside.getName() + " is private or package-visible", hidden ? 1 : 0, 1);
+            check.due(inside.getName() + " is static", Modifier.isStatic(modifiers) ? 1 : 0, 1);
+        }
     }
 
     private static Set<String> visibleMembers() {

@@ -6,6 +6,7 @@ import java.util.Random;
 public final class OracleTest {
     private static final Check CHECK = new Check();
     private static final int[] REACHES = {2, 3, 5, 9, 40, 700, 5000, 20000};
+    private static final int SMALL = 3;
 
     private static int onCurve = 0;
     private static int inside = 0;
@@ -18,6 +19,9 @@ public final class OracleTest {
         }
         for (int round = 0; round < 40; round++) {
             compareRun(random, round);
+        }
+        for (int size = 1; size <= 3; size++) {
+            compareEveryContour(size);
         }
         // Without places of every kind the comparison would say little.
         CHECK.due("many places on curves", onCurve > 10000 ? 1 : 0, 1);
@@ -60,6 +64,38 @@ public final class OracleTest {
         if (reach >= 700 && round % 5 == 0) {
             int j = within(random, reach / 64 > 300 ? 300 : reach / 64);
             CHECK.due("round " + round + ": " + told(contours) + "row(" + j + ")", scan.row(j), rowOf(oracle, 64, j));
+        }
+    }
+
+    /** Every contour of so many points of a small grid, at every place of the grid and round it. */
+    private static void compareEveryContour(int size) {
+        int kinds = 2 * SMALL * SMALL;
+        int contours = size == 1 ? kinds : size == 2 ? kinds * kinds : kinds * kinds * kinds;
+        for (int number = 0; number < contours; number++) {
+            List<int[]> points = new ArrayList<>();
+            int rest = number;
+            for (int k = 0; k < size; k++) {
+                int at = rest % kinds / 2;
+                points.add(new int[] {at % SMALL, at / SMALL, rest % 2});
+                rest /= kinds;
+            }
+            compareEveryPlace(points);
+        }
+    }
+
+    private static void compareEveryPlace(List<int[]> points) {
+        CurveScan scan = new CurveScan(1);
+        Oracle oracle = new Oracle();
+        for (int[] point : points) {
+            scan.point(point[0], point[1], point[2] == 1);
+        }
+        scan.close();
+        oracle.addContour(points);
+        for (int x = -1; x <= SMALL; x++) {
+            for (int y = -1; y <= SMALL; y++) {
+                CHECK.due(told(List.of(points)) + "winding(" + x + ", " + y + ")", scan.winding(x, y),
+                        oracle.windingAt(x, y));
+            }
         }
     }
 

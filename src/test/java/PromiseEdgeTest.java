@@ -274,9 +274,10 @@ public final class PromiseEdgeTest {
                 .winding(10001, -10001, 0).winding(9999, -9999, 1).winding(19999, -19999, 0).winding(1, -1, 1)
                 .winding(20000, -20000, 0).play(CHECK);
         run(ON_CURVE, 1).contour(1, -20000, 0, 1, 20000, 0, 0).winding(0, 0, 1000).winding(1, 0, 0)
-                .winding(5000, 0, 0).winding(20000, 0, 0).winding(-20000, 0, 1000).play(CHECK);
+                .winding(-5000, 0, 1000).winding(5000, 0, 0).winding(20000, 0, 0).winding(-20000, 0, 1000).play(CHECK);
         run(ON_CURVE, 1).contour(1, 20000, -20000, 1, -20000, 20000, 0).winding(0, 0, 1000).winding(-1, 1, 0)
-                .winding(-5000, 5000, 0).winding(-20000, 20000, 0).winding(20000, -20000, 1000).play(CHECK);
+                .winding(5000, -5000, 1000).winding(-5000, 5000, 0).winding(-20000, 20000, 0)
+                .winding(20000, -20000, 1000).play(CHECK);
     }
 
     private static void windingOutOfRange() {

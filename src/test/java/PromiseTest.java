@@ -22,6 +22,7 @@ public final class PromiseTest {
         rowOfFullWidth();
         rowsAtTheEdges();
         count();
+        objectsAreApart();
         CHECK.end();
     }
 
@@ -366,5 +367,26 @@ public final class PromiseTest {
         for (int what : others) {
             due("7: what " + what, scan.count(what), CurveScan.REFUSED);
         }
+    }
+
+    /** Calls on one object, made or used between those on another, change nothing there. */
+    private static void objectsAreApart() {
+        CurveScan first = new CurveScan(3);
+        first.point(0, 0, true);
+        CurveScan second = new CurveScan(5);
+        due("1: a new object beside another", second.count(2), 0);
+        due("3: nothing to close beside another", second.close(), CurveScan.NONE);
+        due("2: the other goes on", first.point(320, 0, true), 2);
+        square(second, 0, 640);
+        due("2: and on", first.point(320, 320, true), 3);
+        due("3: its first", first.close(), 1);
+        due("5: the first's winding", first.winding(100, 200), 0);
+        due("5: the second's winding", second.winding(100, 200), 1);
+        due("6: the first's row", first.row(1), 0b110);
+        due("6: the second's row", second.row(1), 0b11111);
+        due("4: the first cleared", first.clear(), 1);
+        due("7: the first's points", first.count(2), 0);
+        due("7: the second's points", second.count(2), 4);
+        due("5: the second's curve", second.winding(640, 640), 1000);
     }
 }

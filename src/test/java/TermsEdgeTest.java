@@ -1,6 +1,6 @@
 /**
- * The boundaries that the document's terms name, sentence by sentence, with calls on both sides of each
- * boundary; Run plays them at other calls of the 512 too.
+ * What the document's terms say, sentence by sentence, with calls on both sides of each boundary that they name;
+ * Run plays them at other calls of the 512 too.
  */
 public final class TermsEdgeTest {
     private static final Check CHECK = new Check();
@@ -10,6 +10,11 @@ public final class TermsEdgeTest {
     private static final String REACH = "x and y, -20000 to 20000";
     private static final String IN_ALL = "at most 256 in all";
     private static final String NEIGHBOURS = "the last and the first are, too";
+    private static final String UNIT = "64ths of a pixel";
+    private static final String MIDDLE = "between two neighbours that are not on lies one that is on, in their middle";
+    private static final String LINE = "between two that are on a line";
+    private static final String BEND = "a point that is not on bends the curve between its neighbours";
+    private static final String WAY = "turns that go from the x axis (right) to the y axis (down) count 1";
     private static final String BEGINS = "one without points that are on begins between its last and first";
     private static final String SINGLE = "one of a single point is that point alone, on or not";
     private static final String IN = "a place is in if its winding is not 0, or it is on a curve";
@@ -23,6 +28,11 @@ public final class TermsEdgeTest {
         pointsAtTheReachAreKept();
         pointsInAll();
         lastPointOfAllIsKept();
+        pixelHas64Units();
+        middleOfTwoNotOn();
+        lineBetweenTwoOn();
+        bendOfOneNotOn();
+        wayOfTurns();
         lastAndFirstBothOn();
         lastAndFirstBothNotOn();
         lastAndFirstOneOn();
@@ -159,6 +169,56 @@ public final class TermsEdgeTest {
         run(IN_ALL, 1).samePoints(0, 0, true, 1, MOST - 1).close(1).point(70, 70, true, 1)
                 .point(90, 90, true, CurveScan.FULL).close(2)
                 .winding(70, 70, 1000).winding(90, 90, 0).winding(80, 80, 0).winding(0, 0, 1000).play(CHECK);
+    }
+
+    /** A square of 64 units has the size of a pixel, and one of 65 reaches no further centre. */
+    private static void pixelHas64Units() {
+        run(UNIT, 4).square(1, 64, 128).row(0, 0).row(1, 0b10).row(2, 0).play(CHECK);
+        run(UNIT, 4).square(1, 64, 159).row(1, 0b10).row(2, 0).clear(1).square(1, 64, 160).row(1, 0b110).row(2, 0b110)
+                .play(CHECK);
+    }
+
+    private static void middleOfTwoNotOn() {
+        run(MIDDLE, 1).contour(1, 0, 0, 1, 0, 100, 0, 100, 100, 0, 100, 0, 1)
+                .winding(50, 100, 1000).winding(50, 99, -1).winding(50, 101, 0)
+                .winding(49, 100, 0).winding(51, 100, 0).winding(0, 100, 0).winding(100, 100, 0).play(CHECK);
+        run(MIDDLE, 1).contour(1, 0, 0, 1, 0, 100, 0, 101, 100, 0, 101, 0, 1)
+                .winding(50, 100, 0).winding(51, 100, 0).winding(50, 99, -1).winding(51, 99, -1).play(CHECK);
+        run(MIDDLE, 1).contour(1, 0, 0, 0, 0, 100, 1, 100, 100, 0, 100, 0, 1)
+                .winding(50, 100, 0).winding(0, 100, 1000).play(CHECK);
+    }
+
+    private static void lineBetweenTwoOn() {
+        run(LINE, 1).contour(1, 0, 0, 1, 300, 100, 1, 300, -100, 1)
+                .winding(150, 50, 1000).winding(3, 1, 1000).winding(297, 99, 1000).winding(150, 51, 0)
+                .winding(150, 49, -1).winding(151, 50, -1).winding(149, 50, 0).winding(300, 0, 1000)
+                .winding(299, 0, -1).winding(301, 0, 0).play(CHECK);
+        run(LINE, 1).contour(1, 0, 0, 1, 300, 100, 0, 300, -100, 1)
+                .winding(150, 50, 0).winding(300, 0, 0).winding(300, 100, 0).play(CHECK);
+    }
+
+    /** At t = 1/4, 1/2 and 3/4, where the curve passes whole places. */
+    private static void bendOfOneNotOn() {
+        run(BEND, 1).contour(1, 0, 0, 1, 160, 0, 0, 160, 160, 1)
+                .winding(70, 10, 1000).winding(70, 11, 1).winding(70, 9, 0)
+                .winding(120, 40, 1000).winding(119, 40, 1).winding(121, 40, 0)
+                .winding(150, 90, 1000).winding(149, 90, 1).winding(151, 90, 0)
+                .winding(160, 0, 0).winding(0, 0, 1000).winding(160, 160, 1000).play(CHECK);
+        run(BEND, 1).contour(1, -32, 0, 1, 0, 64, 0, 96, -32, 1)
+                .winding(-12, 22, 1000).winding(-12, 21, -1).winding(-12, 23, 0)
+                .winding(16, 24, 1000).winding(16, 23, -1).winding(16, 25, 0)
+                .winding(52, 6, 1000).winding(52, 5, -1).winding(52, 7, 0).winding(0, 64, 0).play(CHECK);
+    }
+
+    private static void wayOfTurns() {
+        run(WAY, 1).contour(1, 0, 0, 1, 100, 0, 1, 0, 100, 1).winding(10, 10, 1).clear(1)
+                .contour(1, 0, 0, 1, 0, 100, 1, 100, 0, 1).winding(10, 10, -1).play(CHECK);
+        run(WAY, 1).contour(1, 100, 0, 0, 0, 100, 0, -100, 0, 0, 0, -100, 0).winding(0, 0, 1).clear(1)
+                .contour(1, 100, 0, 0, 0, -100, 0, -100, 0, 0, 0, 100, 0).winding(0, 0, -1).play(CHECK);
+        run(WAY, 1).contour(1, 0, 0, 1, 100, 100, 1, 100, 0, 1, 0, 100, 1)
+                .winding(90, 50, -1).winding(10, 50, 1).winding(50, 50, 1000).winding(50, 10, 0).play(CHECK);
+        run(WAY, 1).square(1, 0, 90).square(2, 0, 90).squareBackwards(3, 0, 60).squareBackwards(4, 0, 60)
+                .squareBackwards(5, 0, 30).winding(75, 75, 2).winding(45, 45, 0).winding(15, 15, -1).play(CHECK);
     }
 
     private static void lastAndFirstBothOn() {
